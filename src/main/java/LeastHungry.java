@@ -215,8 +215,9 @@ public final class LeastHungry {
         if (!isDish(p) || !isWithin(rule, RULES - 1) || !isWithin(what, 1)) {
             return OUTSIDE;
         }
+        int inside = now.company.inside(house);
         int fed = places.servedByRule(now.company, house, p, rule);
-        return what == 0 ? now.company.hungerLeft(house, fed) : now.company.greatestLeft(house, fed);
+        return what == 0 ? now.company.hungerLeft(inside, fed) : now.company.greatestLeft(inside, fed);
     }
 
     // ---- 4 worlds, places, seats
@@ -321,7 +322,7 @@ public final class LeastHungry {
         if (what == 0) {
             return trial.portionsOfAll();
         }
-        return what == 1 ? trial.left : trial.company.hungerOfAll();
+        return what == 1 ? trial.left : trial.company.hungerLeft(trial.company.there, 0);
     }
 
     public int image(int n) {
@@ -406,6 +407,16 @@ public final class LeastHungry {
         System.arraycopy(from, 0, to, 0, Math.min(from.length, to.length));
     }
 
+    private static int thoseWithAny(int[] row) {
+        int set = 0;
+        for (int g = 0; g < row.length; g++) {
+            if (row[g] > 0) {
+                set |= 1 << g;
+            }
+        }
+        return set;
+    }
+
     private static int power(int base, int times) {
         int product = 1;
         for (int i = 0; i < times; i++) {
@@ -414,7 +425,10 @@ public final class LeastHungry {
         return product;
     }
 
-    /** Writes the digits of a number into the places of a set, the last place's the lowest: so rising numbers go through the rows by letters. */
+    /**
+     * Writes the digits of a number into the places of a set, the last place's the lowest:
+     * so rising numbers go through the rows by letters.
+     */
     private static void spread(int[] row, int set, int number, int base, int step) {
         int rest = number;
         for (int i = row.length - 1; i >= 0 && base > 0; i--) {
@@ -482,10 +496,10 @@ public final class LeastHungry {
             keen = other.keen;
         }
 
-        int welcome(int guest, int itsHunger, int itsFeint, int itsHouse) {
-            put(hunger, guest, itsHunger);
-            put(feint, guest, itsFeint);
-            put(house, guest, itsHouse);
+        int welcome(int guest, int hisHunger, int hisFeint, int hisHouse) {
+            put(hunger, guest, hisHunger);
+            put(feint, guest, hisFeint);
+            put(house, guest, hisHouse);
             there |= 1 << guest;
             return Integer.bitCount(there);
         }
@@ -502,7 +516,7 @@ public final class LeastHungry {
         int inside(int place) {
             int set = 0;
             for (int g = 0; g < house.length; g++) {
-                if (house[g] == place && has(g)) {
+                if (house[g] == place && holds(there, g)) {
                     set |= 1 << g;
                 }
             }
@@ -510,26 +524,14 @@ public final class LeastHungry {
         }
 
         int hungry(int place) {
-            int set = inside(place);
-            for (int g = 0; g < hunger.length; g++) {
-                if (hunger[g] == 0) {
-                    set &= ~(1 << g);
-                }
-            }
-            return set;
+            return inside(place) & thoseWithAny(hunger);
         }
 
         int feigners(int place) {
-            int set = inside(place);
-            for (int g = 0; g < feint.length; g++) {
-                if (feint[g] == 0) {
-                    set &= ~(1 << g);
-                }
-            }
-            return set;
+            return inside(place) & thoseWithAny(feint);
         }
 
-        /** Who of the hungry of a house. */
+        /** Of the hungry of a house; who is not hungry is never found out. */
         int foundOut(int hungry) {
             int set = 0;
             for (int g = 0; g < hunger.length; g++) {
@@ -596,23 +598,14 @@ public final class LeastHungry {
         int starved() {
             int set = 0;
             for (int g = 0; g < hunger.length; g++) {
-                if (hunger[g] == MOST_HUNGER && has(g)) {
+                if (hunger[g] == MOST_HUNGER && holds(there, g)) {
                     set |= 1 << g;
                 }
             }
             return set;
         }
 
-        int hungerOfAll() {
-            int sum = 0;
-            for (int place = 0; place < HOUSES; place++) {
-                sum += hungerLeft(place, 0);
-            }
-            return sum;
-        }
-
-        int hungerLeft(int place, int fed) {
-            int set = inside(place);
+        int hungerLeft(int set, int fed) {
             int sum = 0;
             for (int g = 0; g < GUESTS; g++) {
                 sum += holds(set, g) ? leftBy(g, fed) : 0;
@@ -620,8 +613,7 @@ public final class LeastHungry {
             return sum;
         }
 
-        int greatestLeft(int place, int fed) {
-            int set = inside(place);
+        int greatestLeft(int set, int fed) {
             int greatest = 0;
             for (int g = 0; g < GUESTS; g++) {
                 greatest = Math.max(greatest, holds(set, g) ? leftBy(g, fed) : 0);
@@ -714,18 +706,18 @@ public final class LeastHungry {
             return i < size ? at(signs, i) : 0;
         }
 
-        int lengthOfAct(int i) {
-            return signAt(i) == HOUR ? 1 : 2;
-        }
-
         int firstFault() {
-            for (int i = 0; i < size; i += lengthOfAct(i)) {
+            for (int i = 0; i < size; i++) {
                 int sign = signAt(i);
-                if (sign != HOUR && !isHouseSign(sign) && !isGuestSign(sign)) {
+                if (sign == HOUR) {
+                    continue;
+                }
+                if (!isHouseSign(sign) && !isGuestSign(sign)) {
                     return i;
                 }
-                if (sign != HOUR && !canFollow(sign, signAt(i + 1))) {
-                    return i + 1;
+                i++;
+                if (!canFollow(sign, signAt(i))) {
+                    return i;
                 }
             }
             return NONE;
@@ -770,14 +762,16 @@ public final class LeastHungry {
             stoppedWhy = NONE;
         }
 
-        /** The night, up to the first act that can not be, the host eating so much of each dish ahead of all: whether it can be. */
+        /** Whether the night can be; it is played up to the first act that can not, the host eating so much of each dish. */
         boolean play(Pad pad, Company from, int plate) {
             begin(from);
             if (pad.firstFault() != NONE) {
                 return false;
             }
-            for (int i = 0; i < pad.size && stoppedAt == NONE; i += pad.lengthOfAct(i)) {
-                int why = act(pad.signAt(i), pad.signAt(i + 1), plate);
+            for (int i = 0; i < pad.size && stoppedAt == NONE; i++) {
+                int sign = pad.signAt(i);
+                int why = act(sign, pad.signAt(i + 1), plate);
+                i += sign == HOUR ? 0 : 1;
                 if (why == POSSIBLE) {
                     acts++;
                 } else {
@@ -1124,7 +1118,6 @@ public final class LeastHungry {
         final int[] ways = new int[SETS * GUESTS];
 
         void arrange(int[] feuds, int set) {
-            Arrays.fill(ways, 0);
             for (int part = 1; part < SETS; part++) {
                 if ((part & ~set) == 0) {
                     arrangePart(feuds, part);
