@@ -2,6 +2,8 @@ import com.sun.source.tree.ArrayTypeTree;
 import com.sun.source.tree.BinaryTree;
 import com.sun.source.tree.ClassTree;
 import com.sun.source.tree.CompilationUnitTree;
+import com.sun.source.tree.DoWhileLoopTree;
+import com.sun.source.tree.ForLoopTree;
 import com.sun.source.tree.LambdaExpressionTree;
 import com.sun.source.tree.MemberReferenceTree;
 import com.sun.source.tree.MethodInvocationTree;
@@ -11,7 +13,9 @@ import com.sun.source.tree.NewClassTree;
 import com.sun.source.tree.ThrowTree;
 import com.sun.source.tree.Tree;
 import com.sun.source.tree.TryTree;
+import com.sun.source.tree.TypeCastTree;
 import com.sun.source.tree.VariableTree;
+import com.sun.source.tree.WhileLoopTree;
 import com.sun.source.util.JavacTask;
 import com.sun.source.util.TreePathScanner;
 import com.sun.source.util.Trees;
@@ -48,6 +52,8 @@ public final class LanguageTest {
     static final Set<String> CONSTANTS = Set.of("NONE", "UNKNOWN", "OUTSIDE", "STATE", "FULL", "NO", "LOST");
     static final Set<String> LIBRARY = Set.of("java.lang.System.arraycopy", "java.util.Arrays.fill", "java.lang.Math.min",
             "java.lang.Math.max", "java.lang.Integer.bitCount", "java.lang.Object.<init>");
+
+    static final Set<String> TYPES = Set.of("int", "long", "boolean", "int[]");
 
     static int wrong = 0;
 
@@ -216,6 +222,8 @@ public final class LanguageTest {
             boolean isStatic = element.getModifiers().toString().contains("static");
             must(!isStatic || element.getModifiers().toString().contains("final"), "rule 5: " + tree);
             must(element.getKind() != ElementKind.EXCEPTION_PARAMETER, "rule 6: " + tree);
+            String type = element.asType().toString();
+            must(TYPES.contains(type) || type.startsWith("LeastHungry."), "rule 3: " + tree);
             return super.visitVariable(tree, none);
         }
 
@@ -226,6 +234,30 @@ public final class LanguageTest {
             boolean isNumber = divisor.matches("[1-9][0-9]*|[A-Z_]+|\\(MOST_FEINT \\+ 1\\)|base");
             must(!isDivision || isNumber, "rule 7: a divisor that nothing tells to be above 0: " + tree);
             return super.visitBinary(tree, none);
+        }
+
+        @Override
+        public Void visitForLoop(ForLoopTree tree, Void none) {
+            must(tree.getCondition() != null && !tree.getUpdate().isEmpty(), "rule 9: no counter against a bound: " + tree);
+            return super.visitForLoop(tree, none);
+        }
+
+        @Override
+        public Void visitWhileLoop(WhileLoopTree tree, Void none) {
+            refuse("rule 9: a loop without a counter of its own", tree);
+            return null;
+        }
+
+        @Override
+        public Void visitDoWhileLoop(DoWhileLoopTree tree, Void none) {
+            refuse("rule 9: a loop without a counter of its own", tree);
+            return null;
+        }
+
+        @Override
+        public Void visitTypeCast(TypeCastTree tree, Void none) {
+            refuse("rule 6: nothing is there to cast", tree);
+            return null;
         }
 
         @Override
