@@ -1,9 +1,14 @@
+import com.sun.source.tree.ArrayAccessTree;
 import com.sun.source.tree.ArrayTypeTree;
 import com.sun.source.tree.BinaryTree;
 import com.sun.source.tree.ClassTree;
 import com.sun.source.tree.CompilationUnitTree;
+import com.sun.source.tree.CompoundAssignmentTree;
+import com.sun.source.tree.ConditionalExpressionTree;
 import com.sun.source.tree.DoWhileLoopTree;
+import com.sun.source.tree.ExpressionTree;
 import com.sun.source.tree.ForLoopTree;
+import com.sun.source.tree.IfTree;
 import com.sun.source.tree.LambdaExpressionTree;
 import com.sun.source.tree.MemberReferenceTree;
 import com.sun.source.tree.MethodInvocationTree;
@@ -17,6 +22,7 @@ import com.sun.source.tree.TypeCastTree;
 import com.sun.source.tree.VariableTree;
 import com.sun.source.tree.WhileLoopTree;
 import com.sun.source.util.JavacTask;
+import com.sun.source.util.TreePath;
 import com.sun.source.util.TreePathScanner;
 import com.sun.source.util.Trees;
 import java.lang.reflect.Constructor;
@@ -33,6 +39,7 @@ import java.util.TreeMap;
 import java.util.TreeSet;
 import javax.lang.model.element.Element;
 import javax.lang.model.element.ElementKind;
+import javax.lang.model.type.TypeKind;
 import javax.tools.JavaCompiler;
 import javax.tools.StandardJavaFileManager;
 import javax.tools.ToolProvider;
@@ -233,7 +240,53 @@ public final class LanguageTest {
             String divisor = tree.getRightOperand().toString();
             boolean isNumber = divisor.matches("[1-9][0-9]*|[A-Z_]+|\\(MOST_FEINT \\+ 1\\)|base");
             must(!isDivision || isNumber, "rule 7: a divisor that nothing tells to be above 0: " + tree);
+            boolean isBits = tree.getKind() == Tree.Kind.AND || tree.getKind() == Tree.Kind.OR || tree.getKind() == Tree.Kind.XOR;
+            must(!isBits || isNumber(tree.getLeftOperand()), "rule 10: bits of what is no number: " + tree);
             return super.visitBinary(tree, none);
+        }
+
+        private boolean isNumber(Tree operand) {
+            TypeKind kind = trees.getTypeMirror(new TreePath(getCurrentPath(), operand)).getKind();
+            return kind == TypeKind.INT || kind == TypeKind.LONG;
+        }
+
+        @Override
+        public Void visitCompoundAssignment(CompoundAssignmentTree tree, Void none) {
+            must(isNumber(tree.getVariable()), "rule 10: arithmetic of what is no number: " + tree);
+            return super.visitCompoundAssignment(tree, none);
+        }
+
+        @Override
+        public Void visitArrayAccess(ArrayAccessTree tree, Void none) {
+            String row = tree.getExpression().toString();
+            String index = tree.getIndex().toString();
+            boolean isLookedAt = false;
+            for (TreePath path = getCurrentPath(); path != null; path = path.getParentPath()) {
+                isLookedAt |= bounds(path.getLeaf(), row, index);
+            }
+            must(isLookedAt, "rule 7: an index that is not looked at: " + tree);
+            return super.visitArrayAccess(tree, none);
+        }
+
+        /** Whether a loop runs over just the row's places, or a condition asks for one of them. */
+        private static boolean bounds(Tree tree, String row, String index) {
+            if (tree instanceof ForLoopTree) {
+                ForLoopTree loop = (ForLoopTree) tree;
+                String from = loop.getInitializer().toString();
+                String to = loop.getCondition().toString();
+                boolean isUp = from.matches("int " + index + " = [01]") && to.equals(index + " < " + row + ".length");
+                boolean isDown = from.equals("int " + index + " = " + row + ".length - 1") && to.startsWith(index + " >= 0");
+                return isUp || isDown;
+            }
+            String asked = index + " >= 0 && " + index + " < " + row + ".length";
+            if (tree instanceof IfTree) {
+                return isJust(((IfTree) tree).getCondition(), asked);
+            }
+            return tree instanceof ConditionalExpressionTree && isJust(((ConditionalExpressionTree) tree).getCondition(), asked);
+        }
+
+        private static boolean isJust(ExpressionTree condition, String asked) {
+            return condition.toString().replaceAll("^\\(|\\)$", "").equals(asked);
         }
 
         @Override

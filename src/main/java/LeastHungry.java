@@ -1068,13 +1068,13 @@ public final class LeastHungry {
         boolean gains(int guest, int set, int number) {
             int hunger = at(measure, guest);
             int own = digitAt(number, placeOf(guest, measure, set));
-            boolean isMore = false;
+            int most = own;
             for (int feint = 1; feint <= MOST_FEINT; feint++) {
                 put(measure, guest, Math.max(0, hunger - feint));
-                isMore |= digitAt(number, placeOf(guest, measure, set)) > own;
+                most = Math.max(most, digitAt(number, placeOf(guest, measure, set)));
             }
             put(measure, guest, hunger);
-            return isMore;
+            return most > own;
         }
 
         static int digitAt(int number, int place) {
